@@ -89,6 +89,7 @@ public final class PromisesTest {
         bound();
         kept();
         count();
+        fullObject();
         System.out.println(wrong == 0 ? "all promises are kept" : wrong + " answers are not as due");
         if (wrong != 0) {
             System.exit(1);
@@ -956,5 +957,44 @@ public final class PromisesTest {
         for (int what : new int[] {-1, 7, Integer.MIN_VALUE, Integer.MAX_VALUE}) {
             due("count(what)", s.count(what), NONE);
         }
+    }
+
+    /** All limits at once: 64 names, 60 kept, 40 marks, a row of 32, and 200 ways of 8 names. */
+    private static void fullObject() {
+        promise = 12;
+        SpanRows s = withSpans(64, 0, 4);
+        for (int i = 0; i < 60; i++) {
+            keepSum(s, 0, 20, i, 63);
+        }
+        for (int i = 0; i < 40; i++) {
+            s.mark();
+        }
+        due("equal(62, 63)", s.equal(62, 63), true);
+        for (int i = 0; i < 32; i++) {
+            s.put(i + 32, 1);
+        }
+        due("back() with a full row", s.back(), 39);
+        due("the row stays", s.count(3), 32);
+        due("63 is alone", s.about(63, 2), 1);
+        due("32 free", s.label(), -2);
+
+        SpanRows t = withSpans(5, 1, 1);
+        t.mark();
+        for (int i = 5; i < 64; i++) {
+            t.name();
+        }
+        t.span(61, 0, 4);
+        t.span(62, 0, 4);
+        t.span(63, 0, 7);
+        for (int i = 0; i < 60; i++) {
+            keepSum(t, 0, 11, 63, i < 30 ? 62 : i);
+        }
+        due("8 free, 200 ways", labelOf(t, 4, 3, 2, 1, 0, 61, 62, 63), 200);
+        due("the last number of the last way", t.way(199, 7), 7);
+        due("take(199)", t.take(199), true);
+        due("number of 62", t.bound(62, true), 4);
+        due("back() from 64 names", t.back(), 0);
+        due("names", t.count(0), 5);
+        due("kept", t.count(1), 0);
     }
 }
