@@ -1,5 +1,5 @@
 /** Boundary cases of promises 13 to 16: what is asked. */
-final class AskingBoundaries extends Boundaries {
+final class AskingBoundaries extends Checks {
     private AskingBoundaries() {
     }
 

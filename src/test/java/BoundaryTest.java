@@ -38,7 +38,7 @@ public final class BoundaryTest {
             }
         }
         lookForSectionsWithoutTest();
-        int wrong = Boundaries.wrongAnswers();
+        int wrong = Checks.wrongAnswers();
         System.out.println(tests + " tests of boundary cases: " + (wrong == 0 ? "all hold" : wrong + " faults"));
         if (wrong != 0) {
             System.exit(1);
@@ -47,30 +47,30 @@ public final class BoundaryTest {
 
     private static void run(Class<?> group, Method method, Map<String, String> sections) {
         Says says = method.getAnnotation(Says.class);
-        Boundaries.begin(says.in() + ", '" + says.words() + "' (" + group.getName() + "." + method.getName() + ")");
+        Checks.begin(says.in() + ", '" + says.words() + "' (" + group.getName() + "." + method.getName() + ")");
         tests++;
         tested.add(says.in());
         if (!sections.getOrDefault(says.in(), "").contains(says.words())) {
-            Boundaries.fault("these words do not stand in the document");
+            Checks.fault("these words do not stand in the document");
         }
         try {
             method.invoke(null);
         } catch (InvocationTargetException e) {
-            Boundaries.fault("a call threw " + e.getCause());
+            Checks.fault("a call threw " + e.getCause());
         } catch (IllegalAccessException e) {
-            Boundaries.fault("the test can't be called");
+            Checks.fault("the test can't be called");
         }
     }
 
     private static void lookForSectionsWithoutTest() {
-        Boundaries.begin("BoundaryTest");
+        Checks.begin("BoundaryTest");
         for (int promise = 1; promise <= PROMISES; promise++) {
             if (!tested.contains("Promise " + promise)) {
-                Boundaries.fault("promise " + promise + " has no test");
+                Checks.fault("promise " + promise + " has no test");
             }
         }
         if (!tested.contains("Terms")) {
-            Boundaries.fault("'Terms' has no test");
+            Checks.fault("'Terms' has no test");
         }
     }
 

@@ -1,5 +1,5 @@
 /** Boundary cases of promises 6 and 7: the row, and what is kept. */
-final class KeepingBoundaries extends Boundaries {
+final class KeepingBoundaries extends Checks {
     private KeepingBoundaries() {
     }
 

@@ -1,5 +1,5 @@
 /** Boundary cases of promises 11 and 12: marks, and going back to them. */
-final class MarkBoundaries extends Boundaries {
+final class MarkBoundaries extends Checks {
     private MarkBoundaries() {
     }
 

@@ -1,60 +1,13 @@
 /** For each promise of the document: ordinary inputs, the edges that it names, and wrong inputs. */
-public final class PromisesTest {
-    private static final int NONE = -1;
-    private static final long LEAST = Long.MIN_VALUE;
-    private static final long GREATEST = Long.MAX_VALUE;
+public final class PromisesTest extends Checks {
     private static final int[] WRONG_NAMES = {-1, 2, 63, 64, Integer.MIN_VALUE, Integer.MAX_VALUE};
 
-    private static int wrong = 0;
-    private static int promise = 0;
-
-    private static void due(String what, long got, long want) {
-        if (got != want) {
-            wrong++;
-            System.out.println("promise " + promise + ": " + what + " answered " + got + ", due is " + want);
-        }
-    }
-
-    private static void due(String what, boolean got, boolean want) {
-        due(what, got ? 1 : 0, want ? 1 : 0);
-    }
-
-    private static SpanRows withNames(int names) {
-        SpanRows s = new SpanRows();
-        for (int i = 0; i < names; i++) {
-            s.name();
-        }
-        return s;
-    }
-
-    private static SpanRows withSpans(int names, long low, long high) {
-        SpanRows s = withNames(names);
-        for (int i = 0; i < names; i++) {
-            s.span(i, low, high);
-        }
-        return s;
-    }
-
-    /** Puts names with the factor 1. */
-    private static void putAll(SpanRows s, int... names) {
-        for (int x : names) {
-            s.put(x, 1);
-        }
+    private PromisesTest() {
     }
 
     private static int keepUnlike(SpanRows s, int... names) {
         putAll(s, names);
         return s.keep(2, 0);
-    }
-
-    private static int keepSum(SpanRows s, int kind, long k, int... names) {
-        putAll(s, names);
-        return s.keep(kind, k);
-    }
-
-    private static int labelOf(SpanRows s, int... names) {
-        putAll(s, names);
-        return s.label();
     }
 
     public static void main(String[] args) {
@@ -90,6 +43,7 @@ public final class PromisesTest {
         kept();
         count();
         fullObject();
+        int wrong = wrongAnswers();
         System.out.println(wrong == 0 ? "all promises are kept" : wrong + " answers are not as due");
         if (wrong != 0) {
             System.exit(1);
@@ -97,7 +51,7 @@ public final class PromisesTest {
     }
 
     private static void newObject() {
-        promise = 1;
+        begin("Promise 1");
         SpanRows s = new SpanRows();
         for (int what = 0; what <= 6; what++) {
             due("count(" + what + ")", s.count(what), 0);
@@ -114,7 +68,7 @@ public final class PromisesTest {
     }
 
     private static void name() {
-        promise = 2;
+        begin("Promise 2");
         SpanRows s = new SpanRows();
         for (int i = 0; i < 64; i++) {
             due("name()", s.name(), i);
@@ -140,7 +94,7 @@ public final class PromisesTest {
     }
 
     private static void span() {
-        promise = 3;
+        begin("Promise 3");
         SpanRows s = withNames(2);
         due("span(0, -5, 5)", s.span(0, -5, 5), true);
         due("span(0, 0, 9)", s.span(0, 0, 9), true);
@@ -176,7 +130,7 @@ public final class PromisesTest {
     }
 
     private static void give() {
-        promise = 4;
+        begin("Promise 4");
         SpanRows s = withNames(2);
         s.span(0, 2, 4);
         due("give below the span", s.give(0, 1), false);
@@ -202,10 +156,10 @@ public final class PromisesTest {
     }
 
     private static void giveAgainstKept() {
-        promise = 4;
+        begin("Promise 4");
         SpanRows s = withNames(3);
         keepUnlike(s, 0, 1);
-        keepSum(s, 1, 10, 0, 1, 2);
+        keepOf(s, 1, 10, 0, 1, 2);
         due("give(0, 3)", s.give(0, 3), true);
         due("give(1, 3) is alike", s.give(1, 3), false);
         due("it is free after that", s.about(1, 0), 0);
@@ -215,7 +169,7 @@ public final class PromisesTest {
         due("give(2, 3)", s.give(2, 3), true);
         SpanRows one = withSpans(3, 0, 9);
         one.equal(0, 1);
-        keepSum(one, 0, 7, 0, 1);
+        keepOf(one, 0, 7, 0, 1);
         due("give of two that are one beyond the sum", one.give(1, 4), false);
         due("its span is still there", one.bound(0, true), 9);
         due("free with a span", one.about(0, 0), 1);
@@ -227,7 +181,7 @@ public final class PromisesTest {
     }
 
     private static void equal() {
-        promise = 5;
+        begin("Promise 5");
         SpanRows s = withNames(6);
         due("equal(4, 2)", s.equal(4, 2), true);
         due("equal(3, 4)", s.equal(3, 4), true);
@@ -265,7 +219,7 @@ public final class PromisesTest {
     }
 
     private static void equalSpans() {
-        promise = 5;
+        begin("Promise 5");
         SpanRows s = withNames(6);
         s.span(0, 0, 5);
         s.span(1, 5, 9);
@@ -297,10 +251,10 @@ public final class PromisesTest {
     }
 
     private static void equalAgainstKept() {
-        promise = 5;
+        begin("Promise 5");
         SpanRows s = withSpans(4, 0, 9);
         keepUnlike(s, 0, 1);
-        keepSum(s, 1, 7, 1, 2);
+        keepOf(s, 1, 7, 1, 2);
         s.give(0, 3);
         due("it would be alike", s.equal(0, 1), false);
         due("1 is free", s.about(1, 0), 1);
@@ -319,7 +273,7 @@ public final class PromisesTest {
     }
 
     private static void put() {
-        promise = 6;
+        begin("Promise 6");
         SpanRows s = withNames(2);
         for (int x : WRONG_NAMES) {
             due("put of no name", s.put(x, 1), NONE);
@@ -336,7 +290,7 @@ public final class PromisesTest {
     }
 
     private static void keep() {
-        promise = 7;
+        begin("Promise 7");
         SpanRows s = withNames(2);
         putAll(s, 0, 1);
         due("kind 3", s.keep(3, 0), NONE);
@@ -347,10 +301,10 @@ public final class PromisesTest {
         due("kind of all bits", s.keep(Integer.MIN_VALUE, 0), NONE);
         due("nothing is kept", s.count(1), 0);
         s.give(0, 4);
-        due("fails", keepSum(s, 1, 5, 0), 0);
+        due("fails", keepOf(s, 1, 5, 0), 0);
         due("the row is taken", s.count(3), 0);
         due("nothing is kept", s.count(1), 0);
-        due("one of two is free", keepSum(s, 1, 5, 0, 1), 1);
+        due("one of two is free", keepOf(s, 1, 5, 0, 1), 1);
         due("the row is taken", s.count(3), 0);
         due("empty, unlike", s.keep(2, 9), 1);
         due("empty, at most -1", s.keep(0, -1), 0);
@@ -363,13 +317,13 @@ public final class PromisesTest {
         }
         due("the 61st", keepUnlike(s, 0, 1), NONE);
         due("the row is taken", s.count(3), 0);
-        due("the 61st, that would fail", keepSum(s, 1, 5, 0), NONE);
+        due("the 61st, that would fail", keepOf(s, 1, 5, 0), NONE);
         due("60 are kept", s.count(1), 60);
         due("the latest is in force", s.give(1, 4), false);
     }
 
     private static void keepSums() {
-        promise = 7;
+        begin("Promise 7");
         SpanRows s = withNames(3);
         s.give(0, 3);
         s.give(1, -4);
@@ -400,7 +354,7 @@ public final class PromisesTest {
     }
 
     private static void keepUnlikes() {
-        promise = 7;
+        begin("Promise 7");
         SpanRows s = withNames(4);
         s.give(0, 3);
         s.give(1, 4);
@@ -421,9 +375,9 @@ public final class PromisesTest {
     }
 
     private static void label() {
-        promise = 8;
+        begin("Promise 8");
         SpanRows s = withSpans(3, 0, 2);
-        keepSum(s, 1, 2, 0, 1, 2);
+        keepOf(s, 1, 2, 0, 1, 2);
         due("label", labelOf(s, 0, 1, 2), 6);
         due("the row is taken", s.count(3), 0);
         due("tried", s.count(6), 3 + 9 + 27);
@@ -450,14 +404,14 @@ public final class PromisesTest {
         due("way(0, 1)", s.way(0, 1), 1);
         SpanRows none = withSpans(2, 5, 6);
         keepUnlike(none, 0, 1);
-        keepSum(none, 1, 12, 0, 1);
+        keepOf(none, 1, 12, 0, 1);
         due("no way", labelOf(none, 0, 1), 0);
         due("tried", none.count(6), 6);
         due("free names of none", none.count(5), 2);
     }
 
     private static void labelOrder() {
-        promise = 8;
+        begin("Promise 8");
         SpanRows s = withSpans(4, 1, 2);
         s.span(3, 2, 2);
         s.equal(0, 2);
@@ -470,7 +424,7 @@ public final class PromisesTest {
         due("way(2, 2)", s.way(2, 2), 1);
         due("tried", s.count(6), 1 + 2 + 4);
         SpanRows t = withSpans(2, 1, 3);
-        keepSum(t, 1, 2, 0);
+        keepOf(t, 1, 2, 0);
         due("what is complete early cuts", labelOf(t, 0, 1), 3);
         due("tried", t.count(6), 3 + 3);
         due("what is complete late does not", labelOf(t, 1, 0), 3);
@@ -478,7 +432,7 @@ public final class PromisesTest {
     }
 
     private static void labelAtTheGreatest() {
-        promise = 8;
+        begin("Promise 8");
         SpanRows s = withNames(3);
         s.span(0, GREATEST - 1, GREATEST);
         s.span(1, LEAST, LEAST + 1);
@@ -488,14 +442,14 @@ public final class PromisesTest {
         due("way(3, 0)", s.way(3, 0), GREATEST);
         due("way(0, 1)", s.way(0, 1), LEAST);
         due("the widest span", labelOf(s, 2), -4);
-        keepSum(s, 1, GREATEST, 2);
+        keepOf(s, 1, GREATEST, 2);
         due("the widest span, none good", labelOf(s, 2), -3);
         due("tried", s.count(6), 5000);
         due("span as before", s.bound(2, true), GREATEST);
     }
 
     private static void labelLimits() {
-        promise = 8;
+        begin("Promise 8");
         SpanRows s = withSpans(10, 0, 0);
         due("8 free", labelOf(s, 0, 1, 2, 3, 4, 5, 6, 7), 1);
         due("tried", s.count(6), 8);
@@ -523,7 +477,7 @@ public final class PromisesTest {
         due("no take(0)", t.take(0), false);
         due("free as before", t.about(1, 0), 1);
         t.span(2, 1, 5000);
-        keepSum(t, 0, 3, 2);
+        keepOf(t, 0, 3, 2);
         due("5000 tried", labelOf(t, 2), 3);
         due("tried", t.count(6), 5000);
         t.span(0, 1, 1);
@@ -547,7 +501,7 @@ public final class PromisesTest {
     }
 
     private static void labelKept() {
-        promise = 8;
+        begin("Promise 8");
         SpanRows s = withSpans(3, 1, 3);
         keepUnlike(s, 0, 1);
         keepUnlike(s, 1, 2);
@@ -556,14 +510,14 @@ public final class PromisesTest {
         due("way(0, 0)", s.way(0, 0), 1);
         due("way(1, 0)", s.way(1, 0), 3);
         due("both", labelOf(s, 1, 0), 4);
-        keepSum(s, 0, 3, 0, 1);
+        keepOf(s, 0, 3, 0, 1);
         due("one sum more", labelOf(s, 1, 0), 1);
         s.equal(0, 1);
         due("two unlike ones that are one", labelOf(s, 0), 0);
         due("each number was tried", s.count(6), 3);
         SpanRows one = withSpans(2, 0, 5);
         one.equal(0, 1);
-        keepSum(one, 1, 6, 0, 1);
+        keepOf(one, 1, 6, 0, 1);
         due("a sum of two that are one", labelOf(one, 1), 1);
         due("way(0, 0)", one.way(0, 0), 3);
         SpanRows wraps = withSpans(1, 0, 4);
@@ -597,7 +551,7 @@ public final class PromisesTest {
     }
 
     private static void waysEnd() {
-        promise = 8;
+        begin("Promise 8");
         SpanRows s = withWays();
         s.name();
         gone("name()", s);
@@ -645,7 +599,7 @@ public final class PromisesTest {
     }
 
     private static void waysStay() {
-        promise = 8;
+        begin("Promise 8");
         SpanRows s = withWays();
         s.span(0, 3, 4);
         there("span() false", s);
@@ -670,7 +624,7 @@ public final class PromisesTest {
     }
 
     private static void way() {
-        promise = 9;
+        begin("Promise 9");
         SpanRows s = withSpans(2, 7, 8);
         labelOf(s, 1, 0);
         due("way(1, 0)", s.way(1, 0), 7);
@@ -687,7 +641,7 @@ public final class PromisesTest {
     }
 
     private static void take() {
-        promise = 10;
+        begin("Promise 10");
         SpanRows s = withSpans(4, 1, 3);
         s.equal(1, 3);
         keepUnlike(s, 0, 1);
@@ -705,14 +659,14 @@ public final class PromisesTest {
         due("take again", s.take(3), false);
         due("another number", s.give(3, 1), false);
         SpanRows none = withSpans(1, 1, 3);
-        keepSum(none, 1, 4, 0);
+        keepOf(none, 1, 4, 0);
         labelOf(none, 0);
         due("take of no ways", none.take(0), false);
         due("take of a new object", new SpanRows().take(0), false);
     }
 
     private static void mark() {
-        promise = 11;
+        begin("Promise 11");
         SpanRows s = withNames(1);
         for (int i = 1; i <= 40; i++) {
             due("mark()", s.mark(), i);
@@ -724,7 +678,7 @@ public final class PromisesTest {
     }
 
     private static void back() {
-        promise = 12;
+        begin("Promise 12");
         SpanRows s = withNames(4);
         s.span(0, 0, 9);
         s.equal(0, 1);
@@ -762,7 +716,7 @@ public final class PromisesTest {
     }
 
     private static void backRow() {
-        promise = 12;
+        begin("Promise 12");
         SpanRows s = withNames(2);
         s.put(0, 1);
         s.mark();
@@ -795,13 +749,13 @@ public final class PromisesTest {
     }
 
     private static void backDeep() {
-        promise = 12;
+        begin("Promise 12");
         SpanRows s = withNames(1);
         for (int i = 0; i < 40; i++) {
             s.mark();
             s.span(0, i, 100 - i);
             s.name();
-            keepSum(s, 0, i, 0, i + 1);
+            keepOf(s, 0, i, 0, i + 1);
         }
         for (int i = 39; i >= 0; i--) {
             due("names", s.count(0), i + 2);
@@ -823,7 +777,7 @@ public final class PromisesTest {
     }
 
     private static void about() {
-        promise = 13;
+        begin("Promise 13");
         SpanRows s = withNames(2);
         for (int x : WRONG_NAMES) {
             for (int what = -1; what <= 5; what++) {
@@ -849,11 +803,11 @@ public final class PromisesTest {
     }
 
     private static void aboutRows() {
-        promise = 13;
+        begin("Promise 13");
         SpanRows s = withNames(4);
         keepUnlike(s, 0, 1);
-        keepSum(s, 0, 5, 1, 1, 2);
-        keepSum(s, 1, 5, 3, 0);
+        keepOf(s, 0, 5, 1, 1, 2);
+        keepOf(s, 1, 5, 3, 0);
         s.put(3, 0);
         due("rows of 0", s.about(0, 3), 2);
         due("rows of 1", s.about(1, 3), 2);
@@ -867,7 +821,7 @@ public final class PromisesTest {
     }
 
     private static void aboutLabel() {
-        promise = 13;
+        begin("Promise 13");
         SpanRows s = withSpans(5, 1, 2);
         s.equal(1, 3);
         s.give(4, 1);
@@ -877,7 +831,7 @@ public final class PromisesTest {
         due("2 is not in the row", s.about(2, 4), 0);
         due("3 is a free name", s.about(3, 4), 1);
         due("4 is not free", s.about(4, 4), 0);
-        keepSum(s, 1, 9, 0);
+        keepOf(s, 1, 9, 0);
         due("not after keep()", s.about(0, 4), 0);
         due("no ways", labelOf(s, 0), 0);
         due("also if they are none", s.about(0, 4), 1);
@@ -889,7 +843,7 @@ public final class PromisesTest {
     }
 
     private static void bound() {
-        promise = 14;
+        begin("Promise 14");
         SpanRows s = withNames(2);
         due("least of 64 bits", s.bound(0, false), LEAST);
         due("greatest of 64 bits", s.bound(0, true), GREATEST);
@@ -908,11 +862,11 @@ public final class PromisesTest {
     }
 
     private static void kept() {
-        promise = 15;
+        begin("Promise 15");
         SpanRows s = withNames(3);
         s.equal(0, 1);
         for (int kind = 0; kind <= 2; kind++) {
-            keepSum(s, kind, 100, 0, 1, 2, 2);
+            keepOf(s, kind, 100, 0, 1, 2, 2);
         }
         s.keep(2, 0);
         for (int kind = 0; kind <= 2; kind++) {
@@ -933,7 +887,7 @@ public final class PromisesTest {
     }
 
     private static void count() {
-        promise = 16;
+        begin("Promise 16");
         SpanRows s = withSpans(5, 1, 3);
         s.mark();
         s.mark();
@@ -961,10 +915,10 @@ public final class PromisesTest {
 
     /** All limits at once: 64 names, 60 kept, 40 marks, a row of 32, and 200 ways of 8 names. */
     private static void fullObject() {
-        promise = 12;
+        begin("Promise 12");
         SpanRows s = withSpans(64, 0, 4);
         for (int i = 0; i < 60; i++) {
-            keepSum(s, 0, 20, i, 63);
+            keepOf(s, 0, 20, i, 63);
         }
         for (int i = 0; i < 40; i++) {
             s.mark();
@@ -987,7 +941,7 @@ public final class PromisesTest {
         t.span(62, 0, 4);
         t.span(63, 0, 7);
         for (int i = 0; i < 60; i++) {
-            keepSum(t, 0, 11, 63, i < 30 ? 62 : i);
+            keepOf(t, 0, 11, 63, i < 30 ? 62 : i);
         }
         due("8 free, 200 ways", labelOf(t, 4, 3, 2, 1, 0, 61, 62, 63), 200);
         due("the last number of the last way", t.way(199, 7), 7);

@@ -1,5 +1,5 @@
 /** Boundary cases of promises 1 to 5: what is told of names. */
-final class TellingBoundaries extends Boundaries {
+final class TellingBoundaries extends Checks {
     private TellingBoundaries() {
     }
 

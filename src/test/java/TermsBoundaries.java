@@ -1,5 +1,5 @@
 /** Boundary cases of 'What it is' and 'Terms'. */
-final class TermsBoundaries extends Boundaries {
+final class TermsBoundaries extends Checks {
     private TermsBoundaries() {
     }
 

@@ -1,5 +1,5 @@
 /** Boundary cases of promises 8 to 10: how long the ways are there, what they are, and taking one. */
-final class WaysBoundaries extends Boundaries {
+final class WaysBoundaries extends Checks {
     private static final String UP_TO_KEEP_OR_LABEL = "The ways are there up to the next keep() or label()";
     private static final String UP_TO_THE_OTHERS =
         "and the next name(), span(), give(), equal(), take() or back() that isn't answered by false or NONE";
@@ -282,11 +282,10 @@ final class WaysBoundaries extends Boundaries {
 
     @Says(in = "Promise 9", words = "0 if there is none such")
     static void wayOfEightNamesHasNoNinth() {
-        SpanRows s = withSpans(8, 1, 1);
-        s.mark();
+        SpanRows s = withSpans(7, 1, 1);
         s.name();
-        s.span(8, 1, 2);
-        due("label()", labelOf(s, 0, 1, 2, 3, 4, 5, 6, 8), 2);
+        s.span(7, 1, 2);
+        due("label()", labelOf(s, 0, 1, 2, 3, 4, 5, 6, 7), 2);
         due("way(1, 7)", s.way(1, 7), 2);
         due("way(0, 8)", s.way(0, 8), 0);
         due("way(1, -1)", s.way(1, -1), 0);

@@ -1,5 +1,5 @@
-/** What the tests of boundary cases share: telling a wrong answer, and making objects to test. */
-abstract class Boundaries {
+/** What the tests share: telling a wrong answer, and making objects to test. */
+abstract class Checks {
     static final int NONE = -1;
     static final long LEAST = Long.MIN_VALUE;
     static final long GREATEST = Long.MAX_VALUE;
