@@ -61,6 +61,21 @@ final class MarkBoundaries extends Checks {
         due("name()", s.name(), 0);
     }
 
+    @Says(in = "Promise 12", words = "All is as at the latest mark (names")
+    static void sixtyFourNamesStayThatWereThereAtTheMark() {
+        SpanRows s = withNames(64);
+        s.give(62, 4);
+        due("mark()", s.mark(), 1);
+        s.give(63, 5);
+        s.equal(0, 62);
+        due("back()", s.back(), 0);
+        due("count(0)", s.count(0), 64);
+        dueFree(s, 63);
+        dueFree(s, 0);
+        dueNumber(s, 62, 4);
+        due("name()", s.name(), NONE);
+    }
+
     @Says(in = "Promise 12", words = "what was told")
     static void whatWasToldGoesBack() {
         SpanRows s = withNames(5);
